@@ -1440,7 +1440,10 @@ public final class BreadCity {
         }
 
         boolean lightOven(int oven) {
-            if (hoursLeftOf(oven) > 0 || flour <= 0 || oven < 0 || oven >= bog.ovens || oven >= OVENS_MOST) {
+            if (oven < 0 || oven >= hoursLeft.length || oven >= timesLit.length) {
+                return false;
+            }
+            if (hoursLeft[oven] > 0 || flour <= 0) {
                 return false;
             }
             hoursLeft[oven] = LIT_HOURS;
@@ -1450,7 +1453,7 @@ public final class BreadCity {
         }
 
         boolean quenchOven(int oven) {
-            if (hoursLeftOf(oven) <= 0 || oven < 0 || oven >= hoursLeft.length) {
+            if (oven < 0 || oven >= hoursLeft.length || hoursLeft[oven] <= 0) {
                 return false;
             }
             hoursLeft[oven] = 0;
@@ -1538,8 +1541,8 @@ public final class BreadCity {
         }
 
         void move() {
-            go(Integer.signum(east), 0, Math.abs(east));
-            go(0, Integer.signum(north), Math.abs(north));
+            go(east < 0 ? -1 : 1, 0, Math.abs(east));
+            go(0, north < 0 ? -1 : 1, Math.abs(north));
         }
 
         private void go(int wayX, int wayY, int cells) {

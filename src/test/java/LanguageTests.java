@@ -94,9 +94,7 @@ public final class LanguageTests {
 
     /** The source without what stands in comments, texts and signs. */
     private static String bare(String source) {
-        for (int i = 0; i < source.length(); i++) {
-            Check.report(source.charAt(i) < 127, "a sign above 126 at " + i);
-        }
+        Check.report(source.chars().allMatch(sign -> sign < 127), "the source has a sign above 126");
         return source.replaceAll("(?s)/\\*.*?\\*/", "").replaceAll("//[^\n]*", "")
             .replaceAll("\"[^\"\n]*\"", "\"\"").replaceAll("'[^'\n]+'", "''");
     }

@@ -432,9 +432,10 @@ public final class PromiseTests {
 
     /** Each thing that WORK changes has a value of its own, and comes back by undo() and by restore(). */
     private static void everythingComesBack() {
-        BreadCity c = Check.cityOf("quarter 0 30;quarter 3 30;oven 0 9;oven 1 9;oven 0 1;flour 50;city 20 3;");
+        BreadCity c = Check.cityOf("quarter 0 30;quarter 3 30;oven 0 9;oven 1 9;oven 0 1;flour 50;city 20 3;reed 18 4;");
         Check.work(c, "again 6[light 0;light 1;light 2;quench 2;hour;];cold 1;onions 0 3;onions 1 2;");
         int[] before = everything(c);
+        Check.is("aground by the reed", c.told(8), 1);
         Check.work(c, "again 9[light 0;light 1;light 2;hour;];cold 0;cold 1;onions 0 30;onions 1 40;quench 1;");
         int changed = 0;
         int[] between = everything(c);

@@ -1,4 +1,7 @@
+import java.io.IOException;
 import java.nio.charset.StandardCharsets;
+import java.nio.file.Files;
+import java.nio.file.Path;
 import java.util.NoSuchElementException;
 
 /** What the tests share: telling texts to a city, and counting what is not as due. */
@@ -7,10 +10,26 @@ final class Check {
         long answer();
     }
 
+    private static final Path DOCUMENT = Path.of("../shared/DOC.md");
+
     private static int passed;
     private static int failed;
+    private static String document;
+    private static String sentence = "";
 
     private Check() { }
+
+    /** What follows tests these words of the document: they must stand there, and every complaint names them. */
+    static void sentence(String words) {
+        try {
+            document = document == null ? Files.readString(DOCUMENT).replaceAll("\\s+", " ") : document;
+        } catch (IOException e) {
+            document = "";
+        }
+        sentence = "";
+        report(document.contains(words), "the document does not say: " + words);
+        sentence = "\"" + words + "\": ";
+    }
 
     static void is(String what, long got, long due) {
         report(got == due, what + " answered " + got + ", due is " + due);
@@ -29,7 +48,7 @@ final class Check {
             passed++;
         } else {
             failed++;
-            System.out.println(complaint);
+            System.out.println(sentence + complaint);
         }
     }
 
@@ -38,7 +57,7 @@ final class Check {
         System.exit(failed == 0 && passed > 0 ? 0 : 1);
     }
 
-    private static Class<?> thrownBy(Call call) {
+    static Class<?> thrownBy(Call call) {
         try {
             call.answer();
             return null;

@@ -2,7 +2,10 @@ import java.io.IOException;
 import java.nio.charset.StandardCharsets;
 import java.nio.file.Files;
 import java.nio.file.Path;
+import java.nio.file.StandardOpenOption;
+import java.util.LinkedHashSet;
 import java.util.NoSuchElementException;
+import java.util.Set;
 
 /** What the tests share: telling texts to a city, and counting what is not as due. */
 final class Check {
@@ -11,6 +14,8 @@ final class Check {
     }
 
     private static final Path DOCUMENT = Path.of("../shared/DOC.md");
+
+    private static final Set<String> SENTENCES = new LinkedHashSet<>();
 
     private static int passed;
     private static int failed;
@@ -21,14 +26,37 @@ final class Check {
 
     /** What follows tests these words of the document: they must stand there, and every complaint names them. */
     static void sentence(String words) {
+        sentence = "";
+        report(document().contains(words), "the document does not say: " + words);
+        sentence = "\"" + words + "\": ";
+        SENTENCES.add(words);
+    }
+
+    /** The document, with one blank for all that is blank. */
+    static String document() {
         try {
             document = document == null ? Files.readString(DOCUMENT).replaceAll("\\s+", " ") : document;
         } catch (IOException e) {
             document = "";
         }
-        sentence = "";
-        report(document.contains(words), "the document does not say: " + words);
-        sentence = "\"" + words + "\": ";
+        return document;
+    }
+
+    /** The file in which the tests of one run of .ci/run write down the sentences that they tested; null without. */
+    static Path ledger() {
+        String name = System.getProperty("ledger");
+        return name == null ? null : Path.of(name);
+    }
+
+    private static void writeDown() {
+        if (ledger() == null) {
+            return;
+        }
+        try {
+            Files.write(ledger(), SENTENCES, StandardOpenOption.CREATE, StandardOpenOption.APPEND);
+        } catch (IOException e) {
+            report(false, "the ledger can't be written: " + e);
+        }
     }
 
     static void is(String what, long got, long due) {
@@ -53,6 +81,8 @@ final class Check {
     }
 
     static void end(String name) {
+        sentence = "";
+        writeDown();
         System.out.println(name + ": " + passed + " answers as due, " + failed + " not");
         System.exit(failed == 0 && passed > 0 ? 0 : 1);
     }

@@ -160,7 +160,7 @@ public final class RefusalTests {
         range("k of bakers", 0, 9, (c, v) -> c.bakers(v, 0, 0));
         range("v of bakers", 0, 99, (c, v) -> c.bakers(9, v, 2));
         range("what of bakers", 0, 2, (c, v) -> c.bakers(0, 99, v));
-        Check.sentence("What a QUARTER gets of n (0 to 999) by SACKS");
+        Check.sentence("What a QUARTER gets of n (0 to 999) by SACKS among told QUARTERS (0, if it is none of them).");
         range("n of sacks", 0, 999, (c, v) -> c.sacks(2, 7, v));
         Check.sentence("IllegalArgumentException: bits of no QUARTERS.");
         range("quarters of sacks", 0, 7, (c, v) -> c.sacks(2, v, 9));
@@ -190,7 +190,8 @@ public final class RefusalTests {
 
     // Promises 35 and 36
     private static void seasons() {
-        Check.sentence("A SEASON of so many HOURS (1 to 96), C (0 to 16): 0 X then, 1 Y then, 2 flour that is left then");
+        Check.sentence("A SEASON of so many HOURS (1 to 96), C (0 to 16): 0 X then, 1 Y then, 2 flour that is left then, "
+            + "3 how often it ran AGROUND by then.");
         range("c of season", 0, 16, (c, v) -> c.season(1, v, 1, 0));
         range("hours of season", 1, 96, (c, v) -> c.season(1, 16, v, 0));
         range("what of season", 0, 3, (c, v) -> c.season(1, 0, 96, v));

@@ -88,7 +88,7 @@ public final class TextEdgeTests {
     }
 
     private static void quarters() {
-        Check.sentence("\"quarter\" D N (QUARTERS, numbered from 0 on, 6 at most: to side D, 0 north, 1 east, 2 south, 3 west, "
+        Check.sentence("CLAUSE: \"quarter\" D N (QUARTERS, numbered from 0 on, 6 at most: to side D, 0 north, 1 east, 2 south, 3 west, "
             + "with N noses, 1 to 99)");
         Check.is("no QUARTERS", sound("", 0).told(0), 0);
         BreadCity six = sound("quarter 0 1;quarter 1 2;quarter 2 98;quarter 3 99;quarter 2 50;quarter 1 7;", 0);

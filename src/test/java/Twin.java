@@ -90,6 +90,17 @@ final class Twin {
         alike(what, one, other);
     }
 
+    /** Whatever it answers, all is as it was, and no refusal is counted. */
+    static void unchanged(String what, On call) {
+        BreadCity one = rich();
+        BreadCity other = rich();
+        Class<?> thrown = Check.thrownBy(() -> call.answer(one));
+        Check.report(thrown == null, what + " threw " + thrown);
+        Check.is(what + ", status(0)", one.status(0), other.status(0));
+        Check.is(what + ", status(1)", one.status(1), other.status(1));
+        alike(what, one, other);
+    }
+
     static void alike(String what, BreadCity one, BreadCity other) {
         List<String> names = new ArrayList<>();
         long[] have = everything(one, names);

@@ -15,11 +15,13 @@ public final class AskEdgeTests {
         pilotOfUnlit();
         pilotFewest();
         pilotWays();
+        pilotAsItStands();
         pilotWithout();
         beyondNineHundred();
         trim();
         trimBoth();
         steps();
+        stepsInTheOpen();
         stepsShutIn();
         fitsAll();
         fitsLines();
@@ -262,6 +264,24 @@ public final class AskEdgeTests {
         Check.is("sets at the worst: four at 15 15", Check.book(c, "") + c.look(1), 4);
     }
 
+    /** Onions that are laid in, and colds, are there in the hours ahead, too. */
+    private static void pilotAsItStands() {
+        BreadCity c = city("quarter 1 20;quarter 3 20;oven 0 1;oven 0 2;mooring 16 15;mooring 14 15;flour 9;",
+            "noses + bread * 5 - onions");
+        Check.is("by 1", c.pilot(0, 1), 2);
+        Check.is("west by none", c.pilot(1, 1), -1);
+        Check.work(c, "onions 0 5;");
+        Check.is("with onions: by both", c.pilot(0, 1), 3);
+        Check.book(c, "1 16 15;");
+        Check.is("fits with onions", c.fits(1), 3);
+        Check.work(c, "cold 0;onions 0 0;");
+        Check.is("with a cold", c.pilot(1, 1), 0);
+        Check.is("with a cold", c.pilot(0, 1), -1);
+        Check.is("fits with a cold", c.fits(0), 0);
+        Check.work(c, "cold 1;");
+        Check.is("with both", c.pilot(0, 1), 2);
+    }
+
     private static void pilotWithout() {
         Check.sentence("PILOT by n (0 to 12), as bits.");
         BreadCity c = Check.cityOf("mooring 15 15;mooring 15 16;");
@@ -343,7 +363,10 @@ public final class AskEdgeTests {
         BreadCity c = Check.cityOf("quarter 1 20;oven 0 9;");
         Check.work(c, "light 0;hour;hour;hour;");
         Check.is("in its last hour", c.oven(0, 2), 1);
-        return c.trim(0);
+        int due = c.trim(0);
+        Check.work(c, "hour;");
+        Check.is("one that is out counts not", c.trim(0), 0);
+        return due;
     }
 
     private static void steps() {
@@ -364,9 +387,13 @@ public final class AskEdgeTests {
         Check.is("from a reed", reed.steps(1), 1);
         Check.is("a reed, and not where it lies", reed.steps(2), -1);
         Check.is("round a reed", reed.steps(3), 4);
-        BreadCity between = Check.cityOf("reed 15 16;reed 15 18;mooring 15 17;reed 16 15;reed 18 15;mooring 17 15;");
-        Check.is("between two reeds, from both sides at once", between.steps(0), 4);
-        Check.is("between two reeds, from both sides at once", between.steps(1), 4);
+        int[] dx = {1, 0, -1, 0};
+        int[] dy = {0, 1, 0, -1};
+        for (int d = 0; d < 4; d++) {
+            BreadCity between = Check.cityOf("reed " + (15 + dx[d]) + " " + (15 + dy[d]) + ";reed " + (15 + 3 * dx[d]) + " "
+                + (15 + 3 * dy[d]) + ";mooring " + (15 + 2 * dx[d]) + " " + (15 + 2 * dy[d]) + ";");
+            Check.is("between two reeds, from both sides at once", between.steps(0), 4);
+        }
         Check.sentence("STEPS to a MOORING (0: it lies there).");
         BreadCity moved = city("quarter 1 1;mooring 18 15;mooring 15 15;reed 15 15;", "30");
         Check.is("3 cells", moved.steps(0), 3);
@@ -374,6 +401,23 @@ public final class AskEdgeTests {
         Check.work(moved, "hour;");
         Check.is("it lies there", moved.steps(0), 0);
         Check.is("a reed, where it lies no more", moved.steps(1), -1);
+    }
+
+    private static void stepsInTheOpen() {
+        for (String from : new String[] {"0 0", "30 0", "0 30", "30 30", "15 15", "1 29"}) {
+            int x = Integer.parseInt(from.split(" ")[0]);
+            int y = Integer.parseInt(from.split(" ")[1]);
+            for (int cell = 0; cell < 961; cell += 3) {
+                BreadCity c = Check.cityOf("city " + from + ";mooring " + cell / 31 + " " + cell % 31 + ";");
+                Check.is("from " + from + " to " + cell, c.steps(0), Math.abs(cell / 31 - x) + Math.abs(cell % 31 - y));
+            }
+        }
+        StringBuilder wall = new StringBuilder("city 0 0;mooring 30 19;");
+        for (int i = 0; i < 12; i++) {
+            wall.append("reed ").append(30 - i).append(' ').append(18 + i).append(';');
+        }
+        // 48 to 18 30, one to 19 30, then 11 east and 11 south behind the reeds
+        Check.is("the long way round", Check.cityOf(wall.toString()).steps(0), 71);
     }
 
     private static void stepsShutIn() {

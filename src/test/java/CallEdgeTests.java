@@ -149,6 +149,11 @@ public final class CallEdgeTests {
         Check.is("one OVEN", Check.bog(c, "quarter 0 1;oven 0 1;"), 1);
         Check.is("none", Check.bog(c, "quarter 0 1;"), 0);
         Check.is("the same text twice", Check.bog(c, ALL) + Check.bog(c, ALL), 16);
+        Check.bog(c, "reed 0 0;reed 30 0;reed 0 30;reed 30 30;reed 7 8;");
+        c.bog(0);
+        for (int cell = 0; cell < 961; cell++) {
+            Check.is("no reed of before at " + cell, c.reed(cell / 31, cell % 31), 0);
+        }
     }
 
     private static void bogStays() {
@@ -337,6 +342,7 @@ public final class CallEdgeTests {
             Check.work(c, left == 4 ? "light 7;" : "hour;");
             Check.is("hours yet", c.oven(7, 2), left);
             Check.is("how often", c.oven(7, 3), 1);
+            Check.is("another one is not lit", c.oven(6, 2) + c.oven(6, 3), 0);
         }
         Check.is("lit and quenched 98 times", Check.work(c, "again 30[light 0;quench 0;];again 30[light 0;quench 0;];"
             + "again 30[light 0;quench 0;];again 8[light 0;quench 0;];"), 196);

@@ -24,6 +24,7 @@ public final class NightEdgeTests {
         refusedSteps();
         images();
         imagesKeepAll();
+        allComesBack();
         Check.end("NightEdgeTests");
     }
 
@@ -460,6 +461,55 @@ public final class NightEdgeTests {
         c.work(0);
         Check.is("one of nothing is one", c.undo(), 1);
         Check.is("cold", c.quarter(0, 4), 1);
+    }
+
+    /** Sixteen WORKS that change everything: all is as it was ahead of each, by undo() and by IMAGES with WORKS of their own. */
+    private static void allComesBack() {
+        Check.sentence("An IMAGE of all that WORK changes, and of the WORKS that can be undone");
+        BreadCity c = Check.cityOf("quarter 1 20;quarter 0 9;oven 0 5;oven 1 9;oven 0 3;city 3 20;reed 8 20;reed 9 24;flour 80;");
+        Check.law(c, "bread * 2 + hour % 7 * 3 - onions / 9");
+        int[][] ahead = new int[17][];
+        int images = 0;
+        for (int i = 0; i < 16; i++) {
+            ahead[i] = all(c);
+            Check.report(Check.work(c, "light " + i % 3 + ";hour;onions " + i % 2 + " " + (i + 1) + ";cold " + i / 2 % 2 + ";again "
+                + i % 4 + "[light " + (i + 1) % 3 + ";quench " + i % 3 + ";];hour;") >= 4, "a WORK");
+            if (i == 4 || i == 9 || i == 15) {
+                images++;
+                Check.is("image", c.image(), images);
+            }
+        }
+        ahead[16] = all(c);
+        Check.report(c.told(8) > 1, "it ran aground");
+        backTo(c, ahead, 16);
+        for (int works : new int[] {16, 10, 5}) {
+            // WORKS of another kind stand where the IMAGE's own come back
+            for (int i = 0; i < 16; i++) {
+                Check.work(c, "onions 1 " + (90 - i) + ";hour;");
+            }
+            images--;
+            Check.is("restore", c.restore(), images);
+            Check.is("WORKS", c.count(2), works);
+            same("IMAGE of " + works, c, ahead[works]);
+            backTo(c, ahead, works);
+        }
+    }
+
+    private static void backTo(BreadCity c, int[][] ahead, int works) {
+        Check.sentence("The latest WORK that was done is undone: how many are left; -1: there is none.");
+        for (int i = works - 1; i >= 0; i--) {
+            Check.is("undo", c.undo(), i);
+            same("undo to " + i, c, ahead[i]);
+        }
+        Check.is("undo", c.undo(), -1);
+        same("undo of none", c, ahead[0]);
+    }
+
+    private static void same(String by, BreadCity c, int[] due) {
+        int[] have = all(c);
+        for (int i = 0; i < due.length; i++) {
+            Check.is("thing " + i + " by " + by, have[i], due[i]);
+        }
     }
 
     private static void refusedSteps() {

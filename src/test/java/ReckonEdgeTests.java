@@ -277,10 +277,25 @@ public final class ReckonEdgeTests {
         Check.law(c, "onions");
         Check.work(c, "onions 5 1;");
         Check.is("the last of six", c.sweetest(0), 5);
+        BreadCity lit = Check.cityOf("quarter 0 10;quarter 1 20;oven 1 9;oven 1 9;oven 0 9;");
+        Check.is("no OVEN is lit", 100 * lit.sweetest(0) + lit.sweetest(1), 0);
+        Check.work(lit, "light 0;light 2;hour;hour;hour;");
+        Check.is("one in each, in the last hour", 100 * lit.sweetest(0) + lit.sweetest(1), 118);
+        Check.work(lit, "quench 0;");
+        Check.is("one in the first", 100 * lit.sweetest(0) + lit.sweetest(1), 9);
     }
 
     // Promise 29
     private static void heaviest() {
+        Check.sentence("with most noses as told (what 0)");
+        BreadCity fewer = Check.cityOf(SIX_OF_ALL + "mooring 9 9;".repeat(6));
+        Check.bog(fewer, "quarter 0 1;quarter 3 2;mooring 15 15;");
+        Check.is("noses of a BOG before count not", 100 * fewer.heaviest(0) + fewer.heaviest(1), 302);
+        Check.is("nor in LEAGUES", fewer.leagues(), 2);
+        Check.is("nor do MOORINGS", fewer.safe(), 1);
+        Check.bog(fewer, "city 15 15;");
+        Check.is("nor do MOORINGS", 10 * fewer.safe() + fewer.span(1, 20, 0, 1, 2), 0);
+        Check.is("nor do MOORINGS", fewer.nearest(0), -1);
         Check.sentence("The side (0 to 3) with most noses as told (what 0), of alike ones the least, how many (1).");
         Check.is("without QUARTERS all are alike", new BreadCity().heaviest(0), 0);
         Check.is("without QUARTERS", new BreadCity().heaviest(1), 0);
@@ -541,5 +556,7 @@ public final class ReckonEdgeTests {
         Check.is("at the end", city("quarter 1 1;", "30").span(1, 20, 0, 96, 0), 30);
         Check.is("at the other end", city("quarter 3 1;", "30").span(1, 20, 0, 96, 1), 0);
         Check.is("without MOORINGS", new BreadCity().span(1, 20, 0, 1, 2), 0);
+        Check.is("without MOORINGS, at 0 0", Check.cityOf("city 0 0;").span(1, 20, 0, 1, 2), 0);
+        Check.is("a MOORING at 0 0", Check.cityOf("city 0 0;mooring 0 1;mooring 1 0;mooring 0 0;").span(1, 20, 0, 1, 2), 20);
     }
 }

@@ -450,6 +450,10 @@ public final class TextEdgeTests {
         bog("Flour 1;", CANNOT, 0);
         bog("flouR 1;", CANNOT, 0);
         bog("flourR 1;", CANNOT, 5);
+        bog("flourz 1;", CANNOT, 0);
+        bog("floura 1;", CANNOT, 0);
+        bog("flour{1;", CANNOT, 5);
+        bog("flour`1;", CANNOT, 5);
         bog("flour 1;cityflour 1;", CANNOT, 8);
         law("breadnoses", CANNOT, 0);
         law("bread noses", CANNOT, 6);

@@ -1136,8 +1136,8 @@ public final class BreadCity {
                 case TIMES: return one * other;
                 case BY: return other == 0 ? 0 : one / other;
                 case LEFT: return other == 0 ? 0 : one % other;
-                case LEAST: return Math.min(one, other);
-                default: return Math.max(one, other);
+                case LEAST: return one <= other ? one : other;
+                default: return one >= other ? one : other;
             }
         }
     }
@@ -1780,6 +1780,9 @@ public final class BreadCity {
 
     /** How far water spreads among the reeds, a row of bits for each Y. */
     private static final class Reach {
+        // a bit for each X of the bog; what is spread beyond the last one is cut off
+        private static final int WHOLE_ROW = 0x7fffffff;
+
         private final Bog bog;
         private final int[] wet = new int[LAST_CELL + 1];
         private final int[] before = new int[LAST_CELL + 1];
@@ -1811,7 +1814,7 @@ public final class BreadCity {
             for (int y = 0; y < wet.length; y++) {
                 int row = entry(before, y);
                 int beside = row << 1 | row >> 1 | entry(before, y - 1) | entry(before, y + 1);
-                wet[y] = row | beside & ~bog.reedRow(y) & Integer.MAX_VALUE;
+                wet[y] = row | beside & ~bog.reedRow(y) & WHOLE_ROW;
                 grew = grew || wet[y] != row;
             }
             return grew;

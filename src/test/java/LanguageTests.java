@@ -103,6 +103,7 @@ public final class LanguageTests {
         String[] none = {"->", "::", "\\btry\\b", "\\bcatch\\b", "\\bfinally\\b", "\\bsynchronized\\b", "\\bassert\\b",
             "\\bpackage\\b", "Exact\\(", "\\bdouble\\b", "\\bfloat\\b", "\\bvar\\b", "\\bprotected\\b", "@", "\\bnative\\b",
             "System\\.(?!arraycopy)", "\\bstatic\\s*\\{", "\\[\\]\\[\\]\\[\\]", "\\b\\w+\\.\\.\\.", "\\byield\\b", "\\bRandom\\b",
+            "Integer\\.(?!bitCount\\()", "Math\\.(?!(abs|max|min)\\()", "\\bLong\\.",
             "\\bobject\\b", "\\bObject\\b", "\\binstanceof\\b", "while \\(true", "for \\(;;"};
         for (String pattern : none) {
             Check.report(!Pattern.compile(pattern).matcher(bare).find(), "the source has " + pattern);
